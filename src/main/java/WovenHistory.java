@@ -772,6 +772,8 @@ public final class WovenHistory {
         private static final int NO_SUCH_VERSION = 2;
         private static final int TOO_MANY = 3;
         private static final int OUT_OF_ORDER = 4;
+        // Around one place a VERSION has one 'i' block and one 'd' block at most.
+        private static final int DEEPEST = 2 * MOST_VERSIONS;
 
         private final int[] letters;
         private int length;
@@ -791,8 +793,8 @@ public final class WovenHistory {
             numberAt = 0;
             faultNumber = 0;
             faultAt = NONE;
-            blockBrings = new boolean[MOST_LETTERS];
-            blockBy = new int[MOST_LETTERS];
+            blockBrings = new boolean[DEEPEST];
+            blockBy = new int[DEEPEST];
             depth = 0;
             woven = new Weave();
         }
@@ -936,7 +938,7 @@ public final class WovenHistory {
                 fail(OUT_OF_ORDER, numberAt);
             }
             expect('(');
-            if (faultNumber == 0 && depth < MOST_LETTERS) {
+            if (faultNumber == 0 && depth < DEEPEST) {
                 blockBrings[depth] = brings;
                 blockBy[depth] = v;
                 depth++;

@@ -277,6 +277,7 @@ public final class PromiseTests {
         fault(three + "d2(d2(", 4, 14);
         fault(three + "d2(d1(d02(", 4, 17);
         fault(three + "d2(i0(d1(d2(", 4, 20);
+        fault(three + "d0(i0(A", 4, 16);
         fault(three + "d1(i1(A", 4, 16);
         fault(three + "d1(i2(A", 4, 16);
         fault(three + "i0(d1(i2(A", 4, 19);
@@ -294,6 +295,7 @@ public final class PromiseTests {
         fault(full + " v", 3, full.length() + 1);
         fault(full + "i0()v0;", 1, full.length() + 4);
         fault(full + "i24()", 2, full.length() + 1);
+        nestedAsDeepAsCanBe();
         String lines = "v99;v0;i0(" + "A".repeat(120);
         noFault(lines + ")", 2, 120);
         fault(lines + "B)", 3, 130);
@@ -301,6 +303,22 @@ public final class PromiseTests {
         fault(lines + ")d0(i0(B", 3, 137);
         fault(lines + ")d0(i0(", 1, 137);
         fault(lines + ")i1(d1(", 4, 135);
+    }
+
+    /** Each of fifteen versions brings and takes around one place: a line there cannot stand. */
+    private static void nestedAsDeepAsCanBe() {
+        StringBuilder b = new StringBuilder("v99;" + "v0;".repeat(14));
+        for (int v = 14; v >= 0; v--) {
+            b.append('d').append(v).append('(');
+        }
+        for (int v = 0; v < 15; v++) {
+            b.append('i').append(v).append('(');
+        }
+        noFault(b + ")".repeat(30), 15, 0);
+        fault(b + ")".repeat(31), 1, b.length() + 30);
+        fault(b + ")".repeat(29), 1, b.length() + 29);
+        fault(b + "A", 4, b.length());
+        fault(b + "d14(", 4, b.length() + 1);
     }
 
     private static void promise05Told() {
@@ -367,6 +385,15 @@ public final class PromiseTests {
         }
         x.open(0);
         due("6: the OPEN one", x.version(6, 0), UNKNOWN);
+
+        x = woven("v99;v0;v0;v99;i0(d1(" + "A".repeat(119) + ")d2(B))");
+        due("6: LINES", x.version(0, 4), 120);
+        due("6: LINES", x.version(1, 4), 1);
+        due("6: LINES", x.version(2, 4), 119);
+        due("6: LINES", x.version(3, 4), 0);
+        due("6: BROUGHT", x.version(0, 5), 120);
+        due("6: TOOK", x.version(1, 6), 119);
+        due("6: TOOK", x.version(2, 6), 1);
     }
 
     private static void promise07Line() {
@@ -422,6 +449,9 @@ public final class PromiseTests {
         due("8: not so many", x.text(NONE, 8, 0), NONE);
         due("8: the OPEN one by its number", x.text(6, 0, 0), UNKNOWN);
         dueText(x, 1, "ABDEFGP");
+        x = woven("v99;v0;i0(d1(" + "A".repeat(119) + ")B)");
+        due("8: LINE", x.text(1, 0, 2), 119);
+        due("8: not so many", x.text(1, 1, 2), NONE);
     }
 
     private static void promise09Open() {
@@ -545,6 +575,7 @@ public final class PromiseTests {
         x.open(0);
         due("13: one taken before", x.take(1), 'B');
         due("13: two took it", x.line(1, 2), 12);
+        due("13: NEST", x.told(6), 3);
     }
 
     private static void promise14Close() {
@@ -624,8 +655,19 @@ public final class PromiseTests {
         due("16: ends ahead of a second LINE", x.drift(24, 1), 2);
         due("16: LINES", x.told(1), 120);
         due("16: BROUGHT", x.version(1, 5), 1);
-        // An empty TEXT: a taking wants no further X then.
+        // An empty TEXT: a taking wants no further X then. SEED 2: take, put U, put O at 1.
         x = woven("v99;");
+        x.keep(0);
+        x.drift(1, 2);
+        dueText(x, 1, "UO");
+        due("16: INCLUDES nothing", x.version(1, 2), 0);
+        due("16: EXCLUDES nothing", x.version(1, 3), 0);
+        // SEED 9: take, put Y, take it out again.
+        x.goBack(0);
+        x.drift(1, 9);
+        dueText(x, 1, "");
+        due("16: it goes from THE WEAVE", x.told(1), 0);
+        x.goBack(0);
         for (int seed = 1; seed <= 40; seed++) {
             due("16: keep", x.keep(0), 1);
             due("16: drift", x.drift(3, seed), 4);
@@ -692,6 +734,10 @@ public final class PromiseTests {
         due("20: an INCLUDED one is not gone on from", x.near(2, 4), 0);
         due("20: an EXCLUDED one is", x.near(3, 5), 3);
         due("20: near(0, 6)", x.near(0, 6), NONE);
+        WovenHistory chain = woven("v99;v0;v1;v2;v3;v4;v5;v6;v7;v8;v9;v10;v11;v12;v13;v14;v15;v16;"
+                + "v17;v18;v19;v20;v21;v22;");
+        due("20: near(22, 23)", chain.near(22, 23), 22);
+        due("20: near(23, 0)", chain.near(23, 0), 0);
         due("20: one twice", x.near(3, 3), UNKNOWN);
         due("20: near(7, 0)", x.near(7, 0), UNKNOWN);
         due("20: near(0, -1)", x.near(0, -1), UNKNOWN);
@@ -727,8 +773,10 @@ public final class PromiseTests {
         due("22: n = 40", x.sheet(3, 40), 40);
         due("22: n = 0", x.sheet(0, 0), 0);
         due("22: there", x.told(9), 2);
+        x.set(3, 0, 4);
         x.set(3, 39, 5);
         due("22: anew", x.sheet(3, 40), 40);
+        due("22: numbers 0", x.get(3, 0), 0);
         due("22: numbers 0", x.get(3, 39), 0);
         due("22: smaller", x.sheet(3, 2), 2);
         due("22: its end", x.get(3, 2), PLACE);
@@ -833,6 +881,11 @@ public final class PromiseTests {
         due("27: PLACE", x.isFilm(0, 0, 12, Integer.MAX_VALUE), PLACE);
         due("27: PLACE", x.isFilm(0, 0, Integer.MAX_VALUE, 1), PLACE);
         due("27: none of many", x.isFilm(0, 0, 12, 0), 0);
+        x = woven("v99;v0;i0(d1(" + "A".repeat(119) + ")B)");
+        x.sheet(0, 40);
+        due("27: the last of 120", x.film(1, 0, 39), 1);
+        due("27: the last of 120", x.isFilm(1, 0, 39, 1), 1);
+        due("27: its number", x.get(0, 39), 'B' + 65536L * 3);
         x = woven("v99;");
         x.sheet(0, 2);
         due("27: no LINES", x.isFilm(0, 0, 2, 0), 1);
